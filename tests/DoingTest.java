@@ -21,6 +21,10 @@ public final class DoingTest {
         x.warm(0, 0, 0);
         CHECK.due("wool(0, 14)", x.wool(0, 14), 5);
         CHECK.due("wool(0, 15)", x.wool(0, 15), NONE);
+        // slate by 5: 20 16 13 11 9 7 5 4
+        x.warm(0, 0, 2);
+        CHECK.due("slate: wool(0, 6)", x.wool(0, 6), 5);
+        CHECK.due("slate: wool(0, 7)", x.wool(0, 7), NONE);
     }
 
     private static void walksIs(TepidPurse x, int n, int due) {
@@ -60,6 +64,26 @@ public final class DoingTest {
         x.set(1, 5);
         walksIs(x, 2, 1);
         walksIs(x, 3, NONE);
+    }
+
+    private static void walksOfAQuickStone() {
+        // by 8: 40 23 13 7 4; in the oven 60, then 35 20 11 6 3; the oven is 2 minutes away
+        TepidPurse x = CHECK.told("man 0 3;slate 40 0;slate 4 0;oven 1 60;");
+        walksIs(x, 3, 0);
+        walksIs(x, 4, 1);
+        CHECK.due("a pebble behind it", x.walks(1, 4), NONE);
+        // begun behind 1: 23 13 7 60 35 20 behind 6, 11 6 behind 8
+        walksIs(x, 8, 1);
+        // begun behind 6 again: 20 11 6 60 35 20 behind 11, 11 6 behind 13
+        walksIs(x, 9, 2);
+        walksIs(x, 13, 2);
+        walksIs(x, 14, 3);
+        CHECK.due("a pebble behind it", x.walks(1, 60), NONE);
+        CHECK.due("a pebble now", x.walks(1, 0), NONE);
+        x.set(2, 0);
+        // 3 minutes away: 40 23 13 7 60 35 20 11 6 3
+        walksIs(x, 8, 1);
+        walksIs(x, 9, NONE);
     }
 
     private static void walksFromTheOven() {
@@ -111,6 +135,7 @@ public final class DoingTest {
         wool();
         walks();
         walksThatCanNotHelp();
+        walksOfAQuickStone();
         walksFromTheOven();
         buys();
         CHECK.finish();

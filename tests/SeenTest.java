@@ -90,6 +90,8 @@ public final class SeenTest {
         CHECK.due("nobody: drift(1, 1, 2)", x.drift(1, 1, 2), BAD);
         x = CHECK.told("man 0 0;");
         CHECK.due("no stones: drift(1, 1, 0)", x.drift(1, 1, 0), TepidPurse.STATE);
+        x = CHECK.told("man 5 0;soap 40 0;");
+        driftIs(x, 1, 5, 0, 5);
         x = CHECK.told("man 5 0;man 5 0;soap 40 0;debt 0 1 9;");
         // by seed 1: 16838 5758, 10113 17515, 31051 5627, 23010 7419, 16212 4086
         driftIs(x, 1, 1, 0, 1);

@@ -218,6 +218,12 @@ public final class SheetsTest {
         x.sheet(0, 0, 4);
         CHECK.due("new cells are 0", x.read(0, 0, 2, 1), 1);
         CHECK.due("stone 0 to one 0", x.one(0, 2), 1);
+        x.pay(0, 1);
+        x.sheet(0, 0, 4);
+        layAll(x, 0, 1, 1, 1, 1);
+        x.sheet(0, 0, 4);
+        CHECK.due("from the first on", x.read(0, 0, 0, 1), 1);
+        CHECK.due("stone 0 to one 0", x.one(0, 2), 1);
     }
 
     private static void count() {

@@ -81,6 +81,7 @@ public final class TapeTest {
         taken("wind 0;oven 9 5;", 2);
         taken("price 0 9;price 1 9;price 2 9;price 3 9;price 4 1;price 5 1;", 6);
         taken("man 0 0;man 0 0;man 0 0;man 0 0;soap 0 3;slate 0 0;flint 1 1;plain 2 2;soap 00 3;", 9);
+        taken("man 0 0;man 0 0;man 0 0;man 0 0;debt 3 0 1;debt 0 3 1;debt 2 3 1;", 7);
         taken("man 0 0;man 0 0;debt 0 1 0;debt 1 0 9;debt 0 1 99;debt 1 0 1;", 6);
     }
 
@@ -110,6 +111,9 @@ public final class TapeTest {
         faulty("ma 1 1;", 0, 2);
         faulty("mans 1 1;", 0, 2);
         faulty(" x", 1, 2);
+        faulty("zan 1 1;", 0, 2);
+        faulty("mzn 1 1;", 0, 2);
+        faulty("az 1 1;", 0, 2);
         faulty("man", 3, 2);
         faulty("man  ", 5, 2);
         faulty("man 1", 5, 2);
@@ -190,6 +194,36 @@ public final class TapeTest {
         faulty("plain 1 3;man 6 0;", 14, 3);
     }
 
+    private static void whatIsCutOffIsNotRead() {
+        TepidPurse x = new TepidPurse();
+        Check.feedAll(x, "man 1 12;");
+        x.end(7);
+        CHECK.due("a figure cut off", x.text(), -17);
+        Check.feedAll(x, "man 1  ");
+        x.end(5);
+        CHECK.due("a blank cut off", x.text(), -15);
+        Check.feedAll(x, "mans");
+        x.end(3);
+        CHECK.due("a letter cut off", x.text(), -13);
+    }
+
+    private static void eachTextIsReadAnew() {
+        TepidPurse x = new TepidPurse();
+        String text = "man 1 1;plain 9 0;oven 1 5;wind 1;price 0 2;price 5 3;";
+        CHECK.due("a text", Check.tell(x, text), 6);
+        x.go(7);
+        x.drift(1, 9, 0);
+        CHECK.due("the same again", Check.tell(x, text), 6);
+        CHECK.due("MINUTE", x.rule(6), 0);
+        CHECK.due("a faulty one", Check.tell(x, text + "price 5"), -70);
+        CHECK.due("the same again", Check.tell(x, text), 6);
+        CHECK.due("none of it", Check.tell(x, "wind 3;"), 1);
+        CHECK.due("WIND", x.rule(5), 3);
+        for (int t = 0; t < 6; t++) {
+            CHECK.due("price(" + t + ")", x.price(t), 1);
+        }
+    }
+
     private static void whatATextDoes() {
         TepidPurse x = CHECK.told("man 1 2;man 3 4;plain 50 0;oven 3 60;wind 9;price 1 8;debt 0 1 7;");
         x.go(3);
@@ -234,6 +268,8 @@ public final class TapeTest {
         tooMany();
         nobody();
         theFirstMet();
+        whatIsCutOffIsNotRead();
+        eachTextIsReadAnew();
         whatATextDoes();
         CHECK.finish();
     }

@@ -40,6 +40,11 @@ public final class WaysTest {
         wayIs(x, 0, 3, 9, 11, 2, 3);
     }
 
+    private static void aWayThroughTheFirst() {
+        TepidPurse x = CHECK.told("man 5 0;man 0 0;man 0 9;slate 99 1;");
+        wayIs(x, 0, 2, 9, 11, 0, 2);
+    }
+
     private static void aWayThroughAll() {
         TepidPurse x = CHECK.told("man 0 0;man 2 1;man 5 0;man 0 9;slate 99 0;");
         wayIs(x, 0, 3, 9, 11, 2, 3);
@@ -166,6 +171,7 @@ public final class WaysTest {
     public static void main(String[] args) {
         way();
         waysAsGood();
+        aWayThroughTheFirst();
         aWayThroughAll();
         fewest();
         theOrderOfStones();
