@@ -1206,24 +1206,22 @@ public final class TepidPurse {
         int bestLength = 0;
         int bestWarmth = 0;
         int bestMinutes = 0;
-        private World world = null;
         private int kind = 0;
         private int target = 0;
 
         Route() {
         }
 
-        void find(World in, int s, int p) {
-            world = in;
-            kind = in.kind[s];
+        void find(World world, int s, int p) {
+            kind = world.kind[s];
             target = p;
             bestLength = 0;
             bestWarmth = -1;
             bestMinutes = 0;
-            step(0, in.owner[s], in.warmth[s], 0, 1 << in.owner[s]);
+            step(world, 0, world.owner[s], world.warmth[s], 0, 1 << world.owner[s]);
         }
 
-        private void step(int depth, int holder, int warmth, int minutes, int visited) {
+        private void step(World world, int depth, int holder, int warmth, int minutes, int visited) {
             if (holder == target) {
                 judge(depth, warmth, minutes);
                 return;
@@ -1236,7 +1234,7 @@ public final class TepidPurse {
                     int walked = world.minutesBetween(holder, next);
                     int left = cooledFor(warmth, rate(kind, world.wool[holder]), walked);
                     trail[depth] = next;
-                    step(depth + 1, next, left, minutes + walked, visited | 1 << next);
+                    step(world, depth + 1, next, left, minutes + walked, visited | 1 << next);
                 }
             }
         }
@@ -1260,21 +1258,19 @@ public final class TepidPurse {
         private final int[][] arrival = new int[MOST_STONES][MOST_STONES];
         /** What is owed when so many stones have been paid. */
         private final int[][] owed = new int[MOST_STONES + 1][MOST_DEBTS];
-        private World world = null;
         private int wanted = 0;
 
         Clearing() {
         }
 
         /** Whether the debt can be cleared; then the first of the shortest rows is chosen. */
-        boolean find(World in, int d) {
-            world = in;
+        boolean find(World world, int d) {
             wanted = d;
-            System.arraycopy(in.amount, 0, owed[0], 0, MOST_DEBTS);
-            int own = in.stonesOf(in.debtor[d]);
-            foresee(own);
+            System.arraycopy(world.amount, 0, owed[0], 0, MOST_DEBTS);
+            int own = world.stonesOf(world.debtor[d]);
+            foresee(world, own);
             for (int n = 0; n <= Integer.bitCount(own); n++) {
-                if (choose(0, n, own)) {
+                if (choose(world, 0, n, own)) {
                     size = n;
                     return true;
                 }
@@ -1282,7 +1278,7 @@ public final class TepidPurse {
             return false;
         }
 
-        private void foresee(int own) {
+        private void foresee(World world, int own) {
             int each = world.minutesBetween(world.debtor[wanted], world.creditor[wanted]);
             for (int s = 0; s < world.stones; s++) {
                 if ((own >> s & 1) != 0) {
@@ -1295,15 +1291,15 @@ public final class TepidPurse {
             }
         }
 
-        private boolean choose(int depth, int n, int unused) {
+        private boolean choose(World world, int depth, int n, int unused) {
             if (depth >= n || depth >= MOST_STONES) {
                 return owed[depth][wanted] == 0;
             }
             for (int s = 0; s < world.stones; s++) {
                 if ((unused >> s & 1) != 0) {
                     chosen[depth] = s;
-                    lessen(depth, arrival[s][depth]);
-                    if (choose(depth + 1, n, unused & ~(1 << s))) {
+                    lessen(world, depth, arrival[s][depth]);
+                    if (choose(world, depth + 1, n, unused & ~(1 << s))) {
                         return true;
                     }
                 }
@@ -1311,7 +1307,7 @@ public final class TepidPurse {
             return false;
         }
 
-        private void lessen(int depth, int warmth) {
+        private void lessen(World world, int depth, int warmth) {
             int[] now = owed[depth + 1];
             System.arraycopy(owed[depth], 0, now, 0, MOST_DEBTS);
             int first = world.firstOwed(now, world.debtor[wanted], world.creditor[wanted]);
@@ -1328,7 +1324,6 @@ public final class TepidPurse {
         private final int[] order = new int[MOST_DEBTS];
         /** How all is when so many debts had their turn. */
         private final World[] worlds = new World[MOST_DEBTS + 1];
-        private Clearing clearing = null;
 
         Settling() {
             for (int i = 0; i <= MOST_DEBTS; i++) {
@@ -1336,14 +1331,13 @@ public final class TepidPurse {
             }
         }
 
-        void find(World in, Clearing by) {
-            worlds[0].copyFrom(in);
-            clearing = by;
+        void find(World world, Clearing clearing) {
+            worlds[0].copyFrom(world);
             mostCleared = -1;
-            arrange(0, 0);
+            arrange(clearing, 0, 0);
         }
 
-        private void arrange(int depth, int used) {
+        private void arrange(Clearing clearing, int depth, int used) {
             if (depth >= worlds[0].debts || depth >= MOST_DEBTS) {
                 judge(worlds[depth]);
                 return;
@@ -1358,7 +1352,7 @@ public final class TepidPurse {
                             then.handOver(clearing.chosen[i], then.creditor[d]);
                         }
                     }
-                    arrange(depth + 1, used | 1 << d);
+                    arrange(clearing, depth + 1, used | 1 << d);
                 }
             }
         }
