@@ -1,5 +1,9 @@
 /** Counts the answers that are not as due, and tells of each. */
 final class Check {
+    /** Three people, a stone of each kind, and no rule as it is at first. */
+    static final String VILLAGE = "man 3 1;man 0 4;man 5 2;plain 90 0;flint 40 0;slate 60 1;soap 8 2;"
+        + "oven 2 70;wind 3;price 0 9;price 2 3;debt 0 1 50;debt 1 2 20;debt 0 2 9;";
+
     private final String name;
     private int asked = 0;
     private int wrong = 0;

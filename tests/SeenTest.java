@@ -3,8 +3,6 @@ public final class SeenTest {
     private static final Check CHECK = new Check("SeenTest");
     private static final int BAD = TepidPurse.BAD;
     private static final int NONE = TepidPurse.NONE;
-    private static final String VILLAGE = "man 3 1;man 0 4;man 5 2;plain 90 0;flint 40 0;slate 60 1;soap 8 2;"
-        + "oven 2 70;wind 3;price 0 9;price 2 3;debt 0 1 50;debt 1 2 20;debt 0 2 9;";
 
     private static void seeAndForget() {
         TepidPurse x = new TepidPurse();
@@ -40,7 +38,7 @@ public final class SeenTest {
     }
 
     private static void fits() {
-        TepidPurse x = CHECK.told(VILLAGE);
+        TepidPurse x = CHECK.told(Check.VILLAGE);
         fitsAre("nothing seen", x, 12, 0, 15, 7);
         CHECK.due("fits(-1)", x.fits(-1), BAD);
         CHECK.due("fits(4)", x.fits(4), BAD);

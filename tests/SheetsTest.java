@@ -4,8 +4,6 @@ public final class SheetsTest {
     private static final int BAD = TepidPurse.BAD;
     private static final int STATE = TepidPurse.STATE;
     private static final int NONE = TepidPurse.NONE;
-    private static final String VILLAGE = "man 3 1;man 0 4;man 5 2;plain 90 0;flint 40 0;slate 60 1;soap 8 2;"
-        + "oven 2 70;wind 3;price 0 9;price 2 3;debt 0 1 50;debt 1 2 20;debt 0 2 9;";
     private static final String PAIR = "man 5 0;man 5 0;soap 40 0;soap 50 1;debt 0 1 90;";
 
     private static String state(TepidPurse x) {
@@ -27,7 +25,7 @@ public final class SheetsTest {
     }
 
     private static void keepAndBack() {
-        TepidPurse x = CHECK.told(VILLAGE);
+        TepidPurse x = CHECK.told(Check.VILLAGE);
         CHECK.due("keep(-1)", x.keep(-1), BAD);
         CHECK.due("keep(2)", x.keep(2), BAD);
         CHECK.due("back(-1)", x.back(-1), BAD);
@@ -227,7 +225,7 @@ public final class SheetsTest {
     }
 
     private static void count() {
-        TepidPurse x = CHECK.told(VILLAGE);
+        TepidPurse x = CHECK.told(Check.VILLAGE);
         CHECK.due("count(4)", x.count(4), 4);
         CHECK.due("count(5)", x.count(5), 198);
         CHECK.due("count(6)", x.count(6), 79);

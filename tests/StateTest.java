@@ -2,11 +2,9 @@
 public final class StateTest {
     private static final Check CHECK = new Check("StateTest");
     private static final int BAD = TepidPurse.BAD;
-    private static final String VILLAGE = "man 3 1;man 0 4;man 5 2;plain 90 0;flint 40 0;slate 60 1;soap 8 2;"
-        + "oven 2 70;wind 3;price 0 9;price 2 3;debt 0 1 50;debt 1 2 20;debt 0 2 9;";
 
     private static void rule() {
-        TepidPurse x = CHECK.told(VILLAGE);
+        TepidPurse x = CHECK.told(Check.VILLAGE);
         int[] due = {3, 4, 3, 2, 70, 3, 0};
         for (int i = 0; i < 7; i++) {
             CHECK.due("rule(" + i + ")", x.rule(i), due[i]);
@@ -18,7 +16,7 @@ public final class StateTest {
     }
 
     private static void one() {
-        TepidPurse x = CHECK.told(VILLAGE);
+        TepidPurse x = CHECK.told(Check.VILLAGE);
         int[][] due = {{3, 1, 3, 130}, {0, 4, 4, 60}, {5, 2, 8, 8}};
         for (int p = 0; p < 3; p++) {
             for (int what = 0; what < 4; what++) {
@@ -36,7 +34,7 @@ public final class StateTest {
     }
 
     private static void stone() {
-        TepidPurse x = CHECK.told(VILLAGE);
+        TepidPurse x = CHECK.told(Check.VILLAGE);
         int[][] due = {{0, 90, 0, 3, 1}, {1, 40, 0, 1, 1}, {2, 60, 1, 8, 1}, {3, 8, 2, 1, 1}};
         for (int s = 0; s < 4; s++) {
             for (int what = 0; what < 5; what++) {
@@ -66,7 +64,7 @@ public final class StateTest {
     }
 
     private static void debtAndPrice() {
-        TepidPurse x = CHECK.told(VILLAGE);
+        TepidPurse x = CHECK.told(Check.VILLAGE);
         int[][] due = {{0, 1, 50}, {1, 2, 20}, {0, 2, 9}};
         for (int d = 0; d < 3; d++) {
             for (int what = 0; what < 3; what++) {
@@ -86,7 +84,7 @@ public final class StateTest {
     }
 
     private static void dress() {
-        TepidPurse x = CHECK.told(VILLAGE);
+        TepidPurse x = CHECK.told(Check.VILLAGE);
         CHECK.due("dress(0, 0, 5)", x.dress(0, 0, 5), 3);
         CHECK.due("dress(0, 0, 0)", x.dress(0, 0, 0), 5);
         CHECK.due("dress(1, 1, 9)", x.dress(1, 1, 9), 4);
@@ -102,7 +100,7 @@ public final class StateTest {
     }
 
     private static void warm() {
-        TepidPurse x = CHECK.told(VILLAGE);
+        TepidPurse x = CHECK.told(Check.VILLAGE);
         CHECK.due("warm(0, 1, 99)", x.warm(0, 1, 99), 90);
         CHECK.due("warm(0, 1, 0)", x.warm(0, 1, 0), 99);
         CHECK.due("warm(1, 0, 3)", x.warm(1, 0, 3), 1);
@@ -118,7 +116,7 @@ public final class StateTest {
     }
 
     private static void set() {
-        TepidPurse x = CHECK.told(VILLAGE);
+        TepidPurse x = CHECK.told(Check.VILLAGE);
         CHECK.due("set(0, 10)", x.set(0, 10), 3);
         CHECK.due("set(0, 0)", x.set(0, 0), 10);
         CHECK.due("set(1, 99)", x.set(1, 99), 70);
@@ -135,7 +133,7 @@ public final class StateTest {
     }
 
     private static void askAndOwe() {
-        TepidPurse x = CHECK.told(VILLAGE);
+        TepidPurse x = CHECK.told(Check.VILLAGE);
         CHECK.due("ask(0, 1)", x.ask(0, 1), 9);
         CHECK.due("ask(0, 2)", x.ask(0, 2), 1);
         CHECK.due("ask(5, 9)", x.ask(5, 9), 1);

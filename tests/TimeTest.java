@@ -3,8 +3,6 @@ public final class TimeTest {
     private static final Check CHECK = new Check("TimeTest");
     private static final int BAD = TepidPurse.BAD;
     private static final int FULL = TepidPurse.FULL;
-    private static final String VILLAGE = "man 3 1;man 0 4;man 5 2;plain 90 0;flint 40 0;slate 60 1;soap 8 2;"
-        + "oven 2 70;wind 3;price 0 9;price 2 3;debt 0 1 50;debt 1 2 20;debt 0 2 9;";
 
     private static void warmths(String when, TepidPurse x, int... due) {
         for (int s = 0; s < due.length; s++) {
@@ -13,7 +11,7 @@ public final class TimeTest {
     }
 
     private static void go() {
-        TepidPurse x = CHECK.told(VILLAGE);
+        TepidPurse x = CHECK.told(Check.VILLAGE);
         CHECK.due("go(-1)", x.go(-1), BAD);
         CHECK.due("go(61)", x.go(61), BAD);
         CHECK.due("go(0)", x.go(0), 4);
@@ -45,7 +43,7 @@ public final class TimeTest {
     }
 
     private static void pay() {
-        TepidPurse x = CHECK.told(VILLAGE);
+        TepidPurse x = CHECK.told(Check.VILLAGE);
         CHECK.due("pay(4, 0)", x.pay(4, 0), BAD);
         CHECK.due("pay(-1, 0)", x.pay(-1, 0), BAD);
         CHECK.due("pay(0, 3)", x.pay(0, 3), BAD);
@@ -87,7 +85,7 @@ public final class TimeTest {
     }
 
     private static void heat() {
-        TepidPurse x = CHECK.told(VILLAGE);
+        TepidPurse x = CHECK.told(Check.VILLAGE);
         CHECK.due("heat(-1)", x.heat(-1), BAD);
         CHECK.due("heat(4)", x.heat(4), BAD);
         CHECK.due("heat(0), warmer than the oven", x.heat(0), 64);
@@ -137,7 +135,7 @@ public final class TimeTest {
     }
 
     private static void afterAndCold() {
-        TepidPurse x = CHECK.told(VILLAGE);
+        TepidPurse x = CHECK.told(Check.VILLAGE);
         int[] due = {90, 76, 64, 54, 45};
         for (int n = 0; n < due.length; n++) {
             CHECK.due("after(0, " + n + ")", x.after(0, n), due[n]);

@@ -3,8 +3,6 @@ public final class WaysTest {
     private static final Check CHECK = new Check("WaysTest");
     private static final int BAD = TepidPurse.BAD;
     private static final int NONE = TepidPurse.NONE;
-    private static final String VILLAGE = "man 3 1;man 0 4;man 5 2;plain 90 0;flint 40 0;slate 60 1;soap 8 2;"
-        + "oven 2 70;wind 3;price 0 9;price 2 3;debt 0 1 50;debt 1 2 20;debt 0 2 9;";
 
     private static void wayIs(TepidPurse x, int s, int p, int warmth, int minutes, int... hands) {
         String of = "way(" + s + ", " + p + ", ";
@@ -16,7 +14,7 @@ public final class WaysTest {
     }
 
     private static void way() {
-        TepidPurse x = CHECK.told(VILLAGE);
+        TepidPurse x = CHECK.told(Check.VILLAGE);
         wayIs(x, 0, 1, 53, 5, 2, 1);
         wayIs(x, 0, 2, 64, 2, 2);
         wayIs(x, 1, 1, 31, 4, 1);
