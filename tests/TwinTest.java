@@ -198,9 +198,28 @@ public final class TwinTest {
         }
     }
 
+    /** Near the last minute, with the stones as warm as before. */
+    private void growLate() throws ReflectiveOperationException {
+        int[] warmths = new int[5];
+        for (int s = 0; s < 5; s++) {
+            warmths[s] = program.stone(s, 1);
+        }
+        for (int i = 0; i < 16; i++) {
+            ask("go", 60);
+        }
+        ask("go", upTo(38));
+        for (int s = 0; s < 5; s++) {
+            ask("warm", s, 1, warmths[s]);
+        }
+        askForAll();
+    }
+
     private void run() throws ReflectiveOperationException {
         askForAll();
         tell(text());
+        if (upTo(5) == 0) {
+            growLate();
+        }
         for (int i = 0; i < CALLS; i++) {
             int chance = upTo(59);
             if (chance == 0) {
