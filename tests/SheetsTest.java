@@ -183,13 +183,22 @@ public final class SheetsTest {
         CHECK.due("whose the second is", x.stone(1, 2), 0);
     }
 
-    /** With n 0 the cast is made all the same, but no cell is read. */
+    /** With n 0 nothing is taken and nothing is read: no FAULT, whatever the SHEET is and whatever was torn before. */
     private static void readNothing() {
         TepidPurse x = CHECK.told(PAIR);
+        String before = state(x);
         readIs("nothing of nothing", x, x.read(0, 0, 0, 0), 0, 0);
-        x.sheet(0, 1, 0);
-        readIs("nothing of another lane", x, x.read(0, 0, 0, 0), 0, 3);
-        readIs("nothing of no cells", x, x.read(0, 1, 9, 0), 0, 0);
+        for (int lane = 0; lane < 3; lane++) {
+            x.sheet(0, lane, 0);
+            for (int as = 0; as < 3; as++) {
+                String call = "of lane " + lane + " taken as of " + as;
+                readIs("one " + call, x, x.read(0, as, 0, 1), 0, lane == as ? 2 : 3);
+                readIs("nothing " + call, x, x.read(0, as, 0, 0), 0, 0);
+            }
+        }
+        readIs("nothing from beyond", x, x.read(0, 1, 9, 0), 0, 0);
+        readIs("nothing from below", x, x.read(0, 1, -9, 0), 0, 0);
+        same("none was", state(x), before);
     }
 
     private static void lowestBits() {

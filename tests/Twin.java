@@ -879,10 +879,10 @@ final class Twin {
         int done = 0;
         int found = 0;
         try {
-            byte[] bytes = lane == 0 ? (byte[]) sheets[k] : null;
-            short[] shorts = lane == 1 ? (short[]) sheets[k] : null;
-            int[] ints = lane == 2 ? (int[]) sheets[k] : null;
             for (int i = 0; i < n; i++) {
+                byte[] bytes = lane == 0 ? (byte[]) sheets[k] : null;
+                short[] shorts = lane == 1 ? (short[]) sheets[k] : null;
+                int[] ints = lane == 2 ? (int[]) sheets[k] : null;
                 int a = f + 2 * i;
                 int s = lane == 0 ? bytes[a] : lane == 1 ? shorts[a] : ints[a];
                 int p = lane == 0 ? bytes[a + 1] : lane == 1 ? shorts[a + 1] : ints[a + 1];

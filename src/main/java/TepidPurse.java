@@ -489,10 +489,10 @@ public final class TepidPurse {
         Sheet sheet = sheets[k];
         scratch.copyFrom(world);
         int paid = 0;
-        int fault = sheet.faultOfLane(lane);
+        int fault = 0;
         for (int i = 0; i < n && fault == 0; i++) {
             long cell = f + 2L * i;
-            fault = sheet.faultOfCells(cell, 2);
+            fault = sheet.faultOfPair(lane, cell);
             if (fault == 0) {
                 int s = sheet.cells[(int) cell];
                 int p = sheet.cells[(int) cell + 1];
@@ -1125,9 +1125,9 @@ public final class TepidPurse {
             }
         }
 
-        /** What the machine finds where the sheet is taken as of a lane: nothing may be taken as any. */
-        int faultOfLane(int asLane) {
-            return isThere() && lane != asLane ? FAULT_CAST : 0;
+        /** What the machine finds where two cells are read of the sheet taken as of a lane: nothing may be taken as any. */
+        int faultOfPair(int asLane, long first) {
+            return isThere() && lane != asLane ? FAULT_CAST : faultOfCells(first, 2);
         }
 
         /** What the machine finds where so many cells are used from that one on. */
